@@ -47,8 +47,8 @@ public final class FleetSheet {
     private static final int RIGHT = 3;
     private static final int HEAVE = 4;
 
-    private final Text text = new Text();
-    private final Grammar grammar = new Grammar(text);
+    private final Grammar grammar = new Grammar();
+    private final Text text = grammar.text;
     private final Sheet now = new Sheet();
     // Holds what is read and what would be, until the call has its answer.
     private final Sheet draft = new Sheet();
@@ -1131,14 +1131,10 @@ public final class FleetSheet {
 
     /** Reads sheets and orders; each part ends with the next word taken, but not yet looked at. */
     private static final class Grammar {
-        private final Text text;
+        final Text text = new Text();
         private final long[] fleetNames = new long[MAX_FLEETS];
         // How many ships the latest orders named.
         int named;
-
-        Grammar(Text text) {
-            this.text = text;
-        }
 
         boolean readSheet(Sheet sheet) {
             text.begin();

@@ -1072,8 +1072,8 @@ public final class FleetSheet {
             if (end - start != word.length()) {
                 return false;
             }
-            for (int i = 0; i < word.length(); i++) {
-                if (byteAt(start + i) != word.charAt(i)) {
+            for (int i = 0; i < word.length() && start + i < length; i++) {
+                if (bytes[start + i] != word.charAt(i)) {
                     return false;
                 }
             }

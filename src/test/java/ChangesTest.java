@@ -8,6 +8,7 @@ public final class ChangesTest {
         run();
         setWind();
         undoes();
+        undoesRuns();
         eightChanges();
         whatUndoLeaves();
         saves();
@@ -149,6 +150,30 @@ public final class ChangesTest {
         Sheets.due("27 the first load", x.undo(), 0);
         Sheets.dueText("27 the first load", told(x), told(new FleetSheet()));
         Sheets.dueState("27 nothing more", () -> x.undo());
+    }
+
+    /** A run in between writes where the log and the rams of the turn ahead of it stood. */
+    private static void undoesRuns() {
+        FleetSheet x = Sheets.of(DUEL + "ship w 9 9 0;");
+        x.seal(0, 5);
+        x.seal(1, 6);
+        x.run();
+        String first = told(x);
+        x.save(0);
+        x.undo();
+        x.undo();
+        x.undo();
+        Sheets.write(x, 1, "w hlhlhl;y r;");
+        x.seal(0, 7);
+        x.seal(1, 8);
+        x.run();
+        String other = told(x);
+        x.restore(0);
+        Sheets.dueText("29 with its log and rams", told(x), first);
+        Sheets.due("29 with its seals", x.check(0, 0, 5), true);
+        x.undo();
+        Sheets.dueText("27 with its log and rams", told(x), other);
+        Sheets.due("27 with its seals", x.check(0, 0, 7), true);
     }
 
     private static void eightChanges() {

@@ -35,6 +35,9 @@ public final class GrammarTest {
         wrong("   ", e, 3);
         wrong("sheets 10 10;fleet a;", e, 0);
         wrong("shee", e, 0);
+        wrong("theet 10 10;fleet a;", e, 0);
+        wrong("sheet 10 10;bleet a;", e, 12);
+        wrong("sheet 10 10;fleet a;ship x 1 1 1 bull 5;", e, 33);
         wrong("Sheet 10 10;fleet a;", e, 0);
         wrong("  sheet", e, 7);
         wrong("sheet x", e, 6);

@@ -221,6 +221,9 @@ public final class OracleTest {
             feed(sheetText());
         }
         compare("load", () -> sheet.load(), () -> oracle.load());
+        if (chance(20)) {
+            everything();
+        }
         compare("errorPosition", () -> sheet.errorPosition(), () -> oracle.errorPosition());
     }
 
@@ -247,11 +250,13 @@ public final class OracleTest {
                 break;
             case 2:
                 compare("restore " + slot, () -> sheet.restore(slot), () -> oracle.restore(slot));
+                everything();
                 break;
             case 3:
                 for (int n = random(12); n >= 0; n--) {
                     compare("undo", () -> sheet.undo(), () -> oracle.undo());
                 }
+                everything();
                 break;
             default:
                 compare("append " + a, () -> sheet.append(a << 24, b, 0, 0, slot), () -> oracle.append(a << 24, b, 0, 0, slot));
@@ -292,6 +297,24 @@ public final class OracleTest {
         }
         if (kind >= 22) {
             everyShip();
+        }
+    }
+
+    /** What a change that brings back much could have left behind. */
+    private void everything() {
+        everyShip();
+        for (int f = 0; f < sheet.count(2); f++) {
+            int fleet = f;
+            compare("points of " + fleet, () -> sheet.fleet(fleet, 1), () -> oracle.fleet(fleet, 1));
+            compare("letters of " + fleet, () -> sheet.fleet(fleet, 4), () -> oracle.fleet(fleet, 4));
+        }
+        for (int k = 0; k < 3 && sheet.count(8) > 0; k++) {
+            int turn = sheet.count(4) - 1 - random(sheet.count(8));
+            int ship = random(1 + sheet.count(3));
+            int pulse = random(6);
+            int fleet = random(sheet.count(2));
+            compare("logged " + turn + " " + ship + " " + pulse, () -> sheet.logged(turn, ship, pulse), () -> oracle.logged(turn, ship, pulse));
+            compare("sealOf " + turn + " " + fleet, () -> sheet.sealOf(turn, fleet), () -> oracle.sealOf(turn, fleet));
         }
     }
 

@@ -53,7 +53,10 @@ public final class SetupTest {
         Sheets.dueState("2 601", () -> x.append(0x01010000, 0, 0, 0, 0));
         Sheets.due("2 changes nothing then", x.append(0, 0, 0, 0, 0), 599);
         Sheets.due("2 the 600th", x.append(0, 0, 0, 0, 1), 600);
-        Sheets.dueState("2 the 601st", () -> x.append(0, 0, 1, 0, 0));
+        for (int which = 0; which < 5; which++) {
+            int k = which;
+            Sheets.dueState("2 the 601st", () -> x.append(k == 0 ? 1 : 0, k == 1 ? 256 : 0, k == 2 ? 1 : 0, k == 3 ? 65536 : 0, k == 4 ? -1 << 24 : 0));
+        }
         Sheets.due("2 nothing more", x.append(0, 0, 0, 0, 0), 600);
         Sheets.due("2 bytes over 127 are no letters", x.load(), FleetSheet.SYNTAX_ERROR);
     }
@@ -82,6 +85,40 @@ public final class SetupTest {
         Sheets.load(y, "sheet 9 10;fleet a;ship q 0 0 0;");
         Sheets.due("3 not sealed", y.fleet(0, 3), 0);
         Sheets.due("3 wind of the text", y.count(6), 5);
+        loadLeavesNothing();
+    }
+
+    /** A text that tells little: what the sheet ahead of it had must not come through. */
+    private static void loadLeavesNothing() {
+        FleetSheet x = Sheets.of("sheet 10 10;wind 0 5;shift 9 3 3;shift 1 6 6;fleet a;ship x 2 5 4;"
+            + "fleet b;ship y 2 8 0 mass 5 hull 9;fleet c;ship z 9 0 1 hull 7 mass 7 sail 7 stiff 3;");
+        Sheets.write(x, 2, "z lhr;");
+        Sheets.sealAllAndRun(x);
+        x.setWind(6, 6);
+        Sheets.write(x, 2, "z hhr;");
+        x.seal(2, 3);
+        x.after(0, 0);
+        Sheets.load(x, "sheet 9 9;fleet q;ship k 1 1 1;ship l 2 2 2;fleet r;fleet s;ship m 3 3 3;");
+        Sheets.due("3 direction", x.count(5), 0);
+        Sheets.due("3 force", x.count(6), 5);
+        Sheets.due("3 turn", x.count(4), 0);
+        Sheets.due("3 rams", x.count(7), 0);
+        FleetSheet duel = Sheets.of("sheet 10 10;fleet a;ship x 2 5 4;fleet b;ship y 2 8 0 mass 5 hull 9;");
+        Sheets.due("3 sinks", duel.after(1, 4), 0);
+        Sheets.load(duel, "sheet 9 9;fleet a;");
+        Sheets.due("3 no rams that would be", duel.count(7), 0);
+        Sheets.due("3 shifts", x.shift(9, 0) + x.shift(1, 1), -2);
+        int[] plain = {20, 3, 5, 1, 0, 4, FleetSheet.NONE};
+        for (int ship = 0; ship < 3; ship++) {
+            for (int what = 4; what <= 10; what++) {
+                Sheets.due("3 ship " + ship + ", " + what, x.ship(ship, what), plain[what - 4]);
+            }
+        }
+        for (int fleet = 0; fleet < 3; fleet++) {
+            Sheets.due("3 points", x.fleet(fleet, 1), 0);
+            Sheets.due("3 sealed", x.fleet(fleet, 3), 0);
+            Sheets.due("3 letters", x.fleet(fleet, 4), 0);
+        }
     }
 
     private static void errorPosition() {

@@ -20,6 +20,8 @@ public final class TextsTest {
         FleetSheet x = Sheets.of("sheet 30 30;fleet a;ship abcdefgh 29 10 7 hull 99;ship azaz 9 9 1 hull 9;"
             + "fleet b;ship z 0 0 2 hull 10;");
         Sheets.dueText("30 ships", Sheets.ships(x), "abcdefgh=29,10NW/99 azaz=9,9NE/9 z=0,0E/10");
+        Sheets.dueText("30 a name of one letter first",
+            Sheets.ships(Sheets.of("sheet 9 9;fleet a;ship a 0 0 6 hull 5;ship b 8 8 5;")), "a=0,0W/5 b=8,8SW/20");
         Sheets.dueText("30 no ships", Sheets.ships(new FleetSheet()), "");
         FleetSheet y = Sheets.of("sheet 10 10;wind 0 5;fleet a;ship y 2 8 0 mass 5 hull 9;fleet b;ship x 2 5 4;ship z 9 9 0;");
         Sheets.sealAllAndRun(y);
@@ -50,6 +52,15 @@ public final class TextsTest {
         Sheets.dueIndex("31 -1", () -> x.writtenByte(-1));
     }
 
+    private static boolean isNameOfFace(String name) {
+        for (java.lang.reflect.Method m : FleetSheet.class.getMethods()) {
+            if (m.getDeclaringClass() == FleetSheet.class && m.getName().equals(name)) {
+                return true;
+            }
+        }
+        return false;
+    }
+
     private static void face() {
         int[] got = {FleetSheet.NONE, FleetSheet.SYNTAX_ERROR, FleetSheet.VALUE_ERROR, FleetSheet.TWICE,
             FleetSheet.MISFIT, FleetSheet.TOO_MANY, FleetSheet.UNKNOWN};
@@ -63,6 +74,11 @@ public final class TextsTest {
             Sheets.due("public or private: " + m, isPublic || java.lang.reflect.Modifier.isPrivate(m.getModifiers()), true);
         }
         Sheets.due("public methods", methods, 30);
+        for (Class<?> inside : FleetSheet.class.getDeclaredClasses()) {
+            for (java.lang.reflect.Method m : inside.getDeclaredMethods()) {
+                Sheets.due("bears the name of a public one: " + m, isNameOfFace(m.getName()), false);
+            }
+        }
         int constants = 0;
         for (java.lang.reflect.Field f : FleetSheet.class.getDeclaredFields()) {
             boolean isPublic = java.lang.reflect.Modifier.isPublic(f.getModifiers());

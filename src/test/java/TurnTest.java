@@ -242,9 +242,29 @@ public final class TurnTest {
         Sheets.due("number of the turn", x.count(4), 1);
     }
 
+    /** More calls than the document asks of an object, but the bound of the turns is in it. */
+    private static void lastTurn() {
+        FleetSheet x = Sheets.of("sheet 9 9;wind 0 0;shift 999 0 9;fleet a;ship x 4 0 4 sail 9;");
+        for (int turn = 0; turn < 999; turn++) {
+            Sheets.sealAllAndRun(x);
+        }
+        Sheets.due("calm until then", x.ship(0, 2), 0);
+        Sheets.sealAllAndRun(x);
+        Sheets.due("the shift of turn 999", x.ship(0, 2), 6);
+        Sheets.due("1000 turns", x.count(4), 1000);
+        x.seal(0, 0);
+        Sheets.dueState("no more turns", () -> x.run());
+        Sheets.due("what one more would bring", x.after(0, 2), 8);
+        Sheets.due("its log", x.logged(990, 0, 0), 1);
+        Sheets.dueIndex("no more", () -> x.logged(989, 0, 0));
+    }
+
     private static void refusals() {
         FleetSheet x = Sheets.of("sheet 9 9;fleet a;ship x 3 4 2;fleet b;ship y 8 8 0;fleet c;");
         Sheets.dueState("nobody has sealed", () -> x.run());
+        x.seal(1, 0);
+        Sheets.dueState("the first has not sealed", () -> x.run());
+        x.undo();
         x.seal(0, 0);
         Sheets.dueState("one has not sealed", () -> x.run());
         Sheets.due("nothing changed", x.count(4), 0);
@@ -252,5 +272,6 @@ public final class TurnTest {
         Sheets.due("one without ships need not seal", x.run(), 0);
         FleetSheet none = new FleetSheet();
         Sheets.due("no ships at all", none.run(), 0);
+        lastTurn();
     }
 }

@@ -68,6 +68,10 @@ public final class WouldBeTest {
         Sheets.due("19 the first time", x.meet(0, 1), 3);
         Sheets.due("19 the other way round", x.meet(1, 0), 3);
         Sheets.due("19 never", x.meet(0, 2), FleetSheet.NONE);
+        FleetSheet later = Sheets.of("sheet 10 10;wind 0 5;fleet b;ship z 9 9 0;ship y 2 8 0 mass 5;fleet a;ship x 2 5 4;");
+        Sheets.due("19 of other numbers", later.meet(1, 2), 3);
+        Sheets.due("19 of other numbers, the other way round", later.meet(2, 1), 3);
+        Sheets.due("19 of other numbers, never", later.meet(2, 0), FleetSheet.NONE);
         Sheets.due("19 the same", x.meet(1, 1), FleetSheet.NONE);
         Sheets.dueIndex("19 ship 3", () -> x.meet(3, 0));
         Sheets.dueIndex("19 other 3", () -> x.meet(0, 3));
@@ -103,6 +107,8 @@ public final class WouldBeTest {
         Sheets.write(r, 0, "x ahhhhh;");
         Sheets.write(r, 1, "w hhhhhh;y hhhhhh;z hhhhhh;");
         Sheets.due("20 right", r.spares(0, 0), 3);
+        FleetSheet s = Sheets.of(DUEL.replace("wind 0 5;", "wind 0 0;shift 0 0 5;"));
+        Sheets.due("20 with a shift", s.spares(0, 3), 2);
         FleetSheet d = Sheets.of(DUEL);
         Sheets.sealAllAndRun(d);
         Sheets.due("20 a sunk ship: all alike", d.spares(1, 3), 1);
@@ -127,6 +133,7 @@ public final class WouldBeTest {
         FleetSheet x = Sheets.of("sheet 10 10;wind 0 5;fleet a;ship x 2 5 4;ship w 5 0 4;ship v 7 9 4;"
             + "fleet b;ship y 2 8 0 mass 5 hull 9;fleet c;");
         duePace("22 quotient", x.pace(0), 7f / 3f);
+        duePace("22 the same again", x.pace(0), 7f / 3f);
         duePace("22 none goes", x.pace(1), 0f);
         duePace("22 no ships", x.pace(2), 0f);
         Sheets.dueIndex("22 fleet 3", () -> x.pace(3));

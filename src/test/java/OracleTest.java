@@ -12,6 +12,8 @@ public final class OracleTest {
     private List<String> calls;
     private int made;
     private boolean isWrong;
+    // A text that is meant to be right: most are, or the sheets would stay empty.
+    private boolean isClean;
 
     public static void main(String[] args) {
         int wrong = 0;
@@ -64,7 +66,7 @@ public final class OracleTest {
             int[] wild = {Integer.MIN_VALUE, Integer.MAX_VALUE, -2, 1000, 999, 12, -1000000};
             return wild[random(wild.length)];
         }
-        return random(most + 3) - 1;
+        return chance(8) ? random(most + 3) - 1 : random(Math.max(1, most + 1));
     }
 
     private static Object answerOf(Call call) {
@@ -108,18 +110,22 @@ public final class OracleTest {
         return chance(10) ? "  " : chance(10) ? " " : "";
     }
 
+    private boolean slip() {
+        return !isClean && chance(1);
+    }
+
     private String number(int least, int most) {
-        int n = chance(1) ? (chance(50) ? most + 1 : least - 1) : least + random(most - least + 1);
+        int n = slip() ? (chance(50) ? most + 1 : least - 1) : least + random(most - least + 1);
         String digits = n < 0 ? "-1" : "" + n;
-        return chance(2) ? "000" + digits : chance(1) && chance(30) ? "4294967296" + digits : digits;
+        return chance(2) ? "000" + digits : slip() && chance(30) ? "4294967296" + digits : digits;
     }
 
     private String name(int k) {
         String[] names = {"a", "ship", "hull", "fleet", "abcdefgh", "bee", "zz", "stiff", "wind", "q", "azazazaz", "za", "m", "n"};
-        if (chance(1) && chance(30)) {
+        if (slip() && chance(30)) {
             return "abcdefghi";
         }
-        return names[(chance(1) ? random(names.length) : k) % names.length];
+        return names[(slip() ? random(names.length) : k) % names.length];
     }
 
     private String sheetText() {
@@ -129,18 +135,22 @@ public final class OracleTest {
         if (chance(70)) {
             t.append(space()).append("wind ").append(number(0, 7)).append(' ').append(number(3, 9)).append(";");
         }
-        int shifts = chance(50) ? 0 : chance(95) ? random(4) : random(11);
+        int shifts = chance(50) ? 0 : chance(95) ? random(4) : random(isClean ? 9 : 11);
         for (int k = 0; k < shifts; k++) {
-            t.append("shift ").append(chance(90) ? "" + k : number(0, 999)).append(' ').append(number(0, 7)).append(' ').append(number(0, 9)).append(space()).append(';');
+            t.append("shift ").append(isClean || chance(90) ? "" + k : number(0, 999)).append(' ').append(number(0, 7)).append(' ').append(number(0, 9)).append(space()).append(';');
         }
-        int fleets = chance(97) ? 1 + random(4) : random(6);
+        int fleets = isClean || chance(97) ? 1 + random(4) : random(6);
         int ship = 0;
+        int cells = columns * rows;
+        int cell = random(cells);
         for (int f = 0; f < fleets; f++) {
             t.append(space()).append("fleet ").append(name(f)).append(";");
             int ships = chance(90) ? 1 + random(4) : random(13);
-            for (int k = 0; k < ships && (ship < 12 || chance(3)) && t.length() < 575; k++) {
-                t.append("ship ").append(name(ship)).append(' ').append(number(0, columns - 1)).append(' ')
-                    .append(number(0, rows - 1)).append(' ').append(number(0, 7)).append(options()).append(space()).append(';');
+            for (int k = 0; k < ships && (ship < 12 || !isClean && chance(3)) && t.length() < 575; k++) {
+                cell = (cell + 1 + random(Math.max(1, cells / 13 - 1))) % cells;
+                String column = isClean ? "" + cell % columns : number(0, columns - 1);
+                String row = isClean ? "" + cell / columns : number(0, rows - 1);
+                t.append("ship ").append(name(ship)).append(' ').append(column).append(' ').append(row).append(' ').append(number(0, 7)).append(options()).append(space()).append(';');
                 ship++;
             }
         }
@@ -153,7 +163,7 @@ public final class OracleTest {
         int[] most = {chance(50) ? 20 : 99, 9, 9, 3};
         for (int k = 0; k < 4; k++) {
             if (chance(40)) {
-                int what = chance(1) ? random(4) : k;
+                int what = slip() ? random(4) : k;
                 t.append(' ').append(words[what]).append(space()).append(number(what == 3 ? 0 : 1, most[what]));
             }
         }
@@ -161,7 +171,7 @@ public final class OracleTest {
     }
 
     private String spoil(StringBuilder t) {
-        if (chance(12) && t.length() > 0) {
+        if (!isClean && chance(25) && t.length() > 0) {
             int at = random(t.length());
             switch (random(4)) {
                 case 0: t.deleteCharAt(at); break;
@@ -178,26 +188,27 @@ public final class OracleTest {
         int named = random(6);
         int ships = Math.max(1, sheet.count(3));
         int first = random(ships);
+        isClean = chance(70);
         for (int k = 0; k < named; k++) {
             int ship = (first + k) % ships;
-            if (sheet.count(3) > 0 && sheet.ship(ship, 0) != fleet && chance(97)) {
+            if (sheet.count(3) > 0 && sheet.ship(ship, 0) != fleet && (isClean || chance(90))) {
                 continue;
             }
             t.append(space()).append(name(ship)).append(' ');
-            int letters = chance(98) ? 1 + random(6) : random(9);
+            int letters = isClean || chance(90) ? 1 + random(6) : random(9);
             for (int i = 0; i < letters; i++) {
-                t.append(chance(1) && chance(30) ? 'b' : "aaalrlrh".charAt(random(8)));
+                t.append(slip() ? 'b' : "aaalrlrh".charAt(random(8)));
             }
             t.append(space()).append(';');
         }
-        return chance(30) ? spoil(t) : t.toString();
+        return spoil(t);
     }
 
     // ---- calls
 
     private void step() {
         int dice = random(100);
-        if (made == 0 || dice < 3) {
+        if (made == 0 || dice < 2 || sheet.count(9) < 2 && chance(15)) {
             loadOne();
         } else if (dice < 18) {
             int f = about(sheet.count(2) - 1);
@@ -217,7 +228,8 @@ public final class OracleTest {
     }
 
     private void loadOne() {
-        if (made == 0 || chance(60)) {
+        if (made == 0 || chance(80)) {
+            isClean = chance(70);
             feed(sheetText());
         }
         compare("load", () -> sheet.load(), () -> oracle.load());
@@ -227,11 +239,15 @@ public final class OracleTest {
         compare("errorPosition", () -> sheet.errorPosition(), () -> oracle.errorPosition());
     }
 
+    private static int keyOf(int turn, int fleet) {
+        return 1000 + 4 * turn + fleet;
+    }
+
     private void sealSome() {
         for (int f = 0; f < sheet.count(2); f++) {
             int fleet = f;
-            int key = chance(3) ? 1000000 - random(2) : random(2000) - 1;
-            if (chance(90)) {
+            int key = chance(5) ? 999990 + random(12) : keyOf(sheet.count(4), fleet);
+            if (chance(95)) {
                 compare("seal " + fleet + " " + key, () -> sheet.seal(fleet, key), () -> oracle.seal(fleet, key));
             }
         }
@@ -253,7 +269,7 @@ public final class OracleTest {
                 everything();
                 break;
             case 3:
-                for (int n = random(12); n >= 0; n--) {
+                for (int n = chance(20) ? 9 : random(3); n >= 0; n--) {
                     compare("undo", () -> sheet.undo(), () -> oracle.undo());
                 }
                 everything();
@@ -271,7 +287,7 @@ public final class OracleTest {
         int pulse = about(5);
         int what = about(10);
         int turn = sheet.count(4) - random(12);
-        int key = about(2000);
+        int key = chance(50) ? about(2000) : keyOf(turn, fleet);
         String tail = " of " + ship + ", " + other + ", fleet " + fleet + ", pulse " + pulse + ", what " + what + ", turn " + turn + ", key " + key;
         switch (kind) {
             case 0: compare("count" + tail, () -> sheet.count(what), () -> oracle.count(what)); break;

@@ -82,73 +82,37 @@ public final class ChangesTest {
         Sheets.due("26 nothing changes then", x.count(6), 4);
     }
 
-    /** Everything that a call tells of the sheet, in one text. */
-    private static String told(FleetSheet x) {
-        StringBuilder t = new StringBuilder();
-        for (int what = 0; what <= 10; what++) {
-            t.append(x.count(what)).append(' ');
-            for (int ship = 0; ship < x.count(3); ship++) {
-                t.append(x.ship(ship, what)).append(' ');
-            }
-        }
-        for (int fleet = 0; fleet < x.count(2); fleet++) {
-            for (int what = 0; what < 5; what++) {
-                t.append(x.fleet(fleet, what)).append(' ');
-            }
-            for (int turn = Math.max(0, x.count(4) - 10); turn <= x.count(4); turn++) {
-                t.append(x.sealOf(turn, fleet)).append(' ');
-            }
-        }
-        for (int ship = 0; ship < x.count(3); ship++) {
-            for (int pulse = 0; pulse < 6; pulse++) {
-                t.append(x.order(ship, pulse)).append(' ');
-                for (int turn = Math.max(0, x.count(4) - 10); turn < x.count(4); turn++) {
-                    t.append(x.logged(turn, ship, pulse)).append(' ');
-                }
-            }
-        }
-        for (int ram = 0; ram < x.count(7); ram++) {
-            for (int what = 0; what < 5; what++) {
-                t.append(x.ram(ram, what)).append(' ');
-            }
-        }
-        for (int turn = 0; turn < 20; turn++) {
-            t.append(x.shift(turn, 0)).append(x.shift(turn, 1)).append(' ');
-        }
-        return t.toString();
-    }
-
     private static void undoes() {
         FleetSheet x = Sheets.of(DUEL);
-        String loaded = told(x);
+        String loaded = Sheets.told(x);
         Sheets.write(x, 1, "y hhhh;");
-        String written = told(x);
+        String written = Sheets.told(x);
         x.seal(0, 5);
-        String sealed = told(x);
+        String sealed = Sheets.told(x);
         x.seal(1, 6);
-        String both = told(x);
+        String both = Sheets.told(x);
         Sheets.due("two rams", x.run(), 2);
-        String turned = told(x);
+        String turned = Sheets.told(x);
         x.setWind(3, 3);
-        String blown = told(x);
+        String blown = Sheets.told(x);
         Sheets.load(x, "sheet 20 5;shift 3 3 3;fleet q;ship z 1 1 1;");
         Sheets.due("27 load", x.undo(), 6);
-        Sheets.dueText("27 load", told(x), blown);
+        Sheets.dueText("27 load", Sheets.told(x), blown);
         Sheets.due("27 setWind", x.undo(), 5);
-        Sheets.dueText("27 setWind", told(x), turned);
+        Sheets.dueText("27 setWind", Sheets.told(x), turned);
         Sheets.due("27 run", x.undo(), 4);
-        Sheets.dueText("27 run", told(x), both);
+        Sheets.dueText("27 run", Sheets.told(x), both);
         Sheets.due("27 run again", x.run(), 2);
-        Sheets.dueText("27 run again", told(x), turned);
+        Sheets.dueText("27 run again", Sheets.told(x), turned);
         x.undo();
         Sheets.due("27 seal", x.undo(), 3);
-        Sheets.dueText("27 seal", told(x), sealed);
+        Sheets.dueText("27 seal", Sheets.told(x), sealed);
         Sheets.due("27 seal", x.undo(), 2);
-        Sheets.dueText("27 seal", told(x), written);
+        Sheets.dueText("27 seal", Sheets.told(x), written);
         Sheets.due("27 write", x.undo(), 1);
-        Sheets.dueText("27 write", told(x), loaded);
+        Sheets.dueText("27 write", Sheets.told(x), loaded);
         Sheets.due("27 the first load", x.undo(), 0);
-        Sheets.dueText("27 the first load", told(x), told(new FleetSheet()));
+        Sheets.dueText("27 the first load", Sheets.told(x), Sheets.told(new FleetSheet()));
         Sheets.dueState("27 nothing more", () -> x.undo());
     }
 
@@ -158,7 +122,7 @@ public final class ChangesTest {
         x.seal(0, 5);
         x.seal(1, 6);
         x.run();
-        String first = told(x);
+        String first = Sheets.told(x);
         x.save(0);
         x.undo();
         x.undo();
@@ -167,12 +131,12 @@ public final class ChangesTest {
         x.seal(0, 7);
         x.seal(1, 8);
         x.run();
-        String other = told(x);
+        String other = Sheets.told(x);
         x.restore(0);
-        Sheets.dueText("29 with its log and rams", told(x), first);
+        Sheets.dueText("29 with its log and rams", Sheets.told(x), first);
         Sheets.due("29 with its seals", x.check(0, 0, 5), true);
         x.undo();
-        Sheets.dueText("27 with its log and rams", told(x), other);
+        Sheets.dueText("27 with its log and rams", Sheets.told(x), other);
         Sheets.due("27 with its seals", x.check(0, 0, 7), true);
     }
 
@@ -223,26 +187,26 @@ public final class ChangesTest {
         Sheets.sealAllAndRun(x);
         Sheets.write(x, 0, "x lr;");
         x.seal(0, 9);
-        String first = told(x);
+        String first = Sheets.told(x);
         x.save(0);
         Sheets.load(x, "sheet 5 5;fleet q;");
-        String second = told(x);
+        String second = Sheets.told(x);
         x.save(1);
         Sheets.due("29 turn 1", x.restore(0), 1);
-        Sheets.dueText("29 slot 0", told(x), first);
+        Sheets.dueText("29 slot 0", Sheets.told(x), first);
         Sheets.due("29 turn 0", x.restore(1), 0);
-        Sheets.dueText("29 slot 1", told(x), second);
+        Sheets.dueText("29 slot 1", Sheets.told(x), second);
         Sheets.due("29 it stays saved", x.restore(0), 1);
-        Sheets.dueText("29 slot 0 again", told(x), first);
+        Sheets.dueText("29 slot 0 again", Sheets.told(x), first);
         x.undo();
-        Sheets.dueText("29 a restore can be undone", told(x), second);
+        Sheets.dueText("29 a restore can be undone", Sheets.told(x), second);
         x.save(0);
         x.restore(0);
-        Sheets.dueText("28 in place of what was saved", told(x), second);
+        Sheets.dueText("28 in place of what was saved", Sheets.told(x), second);
         x.restore(1);
         x.setWind(7, 7);
         x.restore(1);
-        Sheets.dueText("29 later changes leave it", told(x), second);
+        Sheets.dueText("29 later changes leave it", Sheets.told(x), second);
         Sheets.dueIndex("28 slot 2", () -> x.save(2));
         Sheets.dueIndex("28 slot -1", () -> x.save(-1));
         Sheets.dueIndex("29 slot 2", () -> x.restore(2));

@@ -86,6 +86,7 @@ public final class SetupTest {
         Sheets.due("3 not sealed", y.fleet(0, 3), 0);
         Sheets.due("3 wind of the text", y.count(6), 5);
         loadLeavesNothing();
+        smallerSheet();
     }
 
     /** A text that tells little: what the sheet ahead of it had must not come through. */
@@ -119,6 +120,31 @@ public final class SetupTest {
             Sheets.due("3 sealed", x.fleet(fleet, 3), 0);
             Sheets.due("3 letters", x.fleet(fleet, 4), 0);
         }
+    }
+
+    /** A smaller sheet behind a larger one: ships of the larger one are not counted any more. */
+    private static void smallerSheet() {
+        FleetSheet x = Sheets.of("sheet 10 10;fleet a;ship x 2 5 4 hull 9;ship y 3 5 4 hull 50;fleet b;ship z 4 5 4 hull 60;ship w 8 8 0;");
+        Sheets.write(x, 0, "x lrh;y hhhhhh;");
+        Sheets.write(x, 1, "z hhhhhh;w hhh;");
+        Sheets.load(x, "sheet 10 10;fleet a;ship p 0 0 0 hull 3;fleet b;");
+        Sheets.due("3 ships", x.count(3), 1);
+        Sheets.due("3 ships that are not sunk", x.count(9), 1);
+        Sheets.due("3 the only fleet", x.count(10), 0);
+        Sheets.due("3 its ships", x.fleet(0, 0), 1);
+        Sheets.due("3 its hull", x.fleet(0, 2), 3);
+        Sheets.due("3 its letters", x.fleet(0, 4), 0);
+        Sheets.due("3 no ships of the other", x.fleet(1, 0) + x.fleet(1, 2) + x.fleet(1, 4), 0);
+        Sheets.due("3 nobody sees it", x.sees(1, 0), false);
+        Sheets.due("3 nobody is there", x.at(3, 5), FleetSheet.NONE);
+        Sheets.due("3 seal of its letters alone", x.seal(1, 5), 5);
+        Sheets.dueIndex("3 no second ship", () -> x.ship(1, 0));
+        Sheets.dueText("3 written", Sheets.ships(x), "p=0,0N/3");
+        x.seal(0, 1);
+        Sheets.due("3 a turn", x.run(), 0);
+        Sheets.due("3 a name that was told ahead of it",
+            Sheets.load(x, "sheet 10 10;fleet b;ship z 1 1 1;ship x 2 5 2;fleet a;ship y 3 5 3;"), 3);
+        Sheets.due("23 of the new ones", Sheets.write(x, 0, "w a;"), FleetSheet.UNKNOWN);
     }
 
     private static void errorPosition() {

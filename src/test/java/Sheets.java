@@ -54,6 +54,53 @@ final class Sheets {
         return all.toString();
     }
 
+    /** Everything that the calls tell of the sheet, in one text; some hundred calls for a small sheet. */
+    static String told(FleetSheet x) {
+        StringBuilder t = new StringBuilder();
+        int[] counts = new int[11];
+        for (int what = 0; what < counts.length; what++) {
+            counts[what] = x.count(what);
+            t.append(counts[what]).append(' ');
+        }
+        tellShips(x, counts, t.append("| "));
+        tellFleets(x, counts, t.append("| "));
+        for (int ram = 0; ram < counts[7]; ram++) {
+            for (int what = 0; what < 5; what++) {
+                t.append(x.ram(ram, what)).append(' ');
+            }
+        }
+        for (int turn = 0; turn < 5; turn++) {
+            t.append("| ").append(x.shift(turn, 0)).append(' ').append(x.shift(turn, 1)).append(' ');
+        }
+        return t.toString();
+    }
+
+    private static void tellShips(FleetSheet x, int[] counts, StringBuilder t) {
+        for (int ship = 0; ship < counts[3]; ship++) {
+            for (int what = 0; what < 11; what++) {
+                t.append(x.ship(ship, what)).append(' ');
+            }
+            for (int pulse = 0; pulse < 6; pulse++) {
+                t.append(x.order(ship, pulse));
+                for (int turn = counts[4] - counts[8]; turn < counts[4]; turn++) {
+                    t.append(' ').append(x.logged(turn, ship, pulse));
+                }
+                t.append(' ');
+            }
+        }
+    }
+
+    private static void tellFleets(FleetSheet x, int[] counts, StringBuilder t) {
+        for (int fleet = 0; fleet < counts[2]; fleet++) {
+            for (int what = 0; what < 5; what++) {
+                t.append(x.fleet(fleet, what)).append(' ');
+            }
+            for (int turn = counts[4] - counts[8]; turn <= counts[4]; turn++) {
+                t.append(x.sealOf(turn, fleet)).append(' ');
+            }
+        }
+    }
+
     static void due(String what, long got, long want) {
         told++;
         if (got != want) {
@@ -74,7 +121,7 @@ final class Sheets {
         }
     }
 
-    private static void dueThrow(String what, Class<?> want, Runnable call) {
+    static void dueThrow(String what, Class<?> want, Runnable call) {
         String got = "nothing";
         try {
             call.run();

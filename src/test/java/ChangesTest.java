@@ -1,4 +1,4 @@
-/** Promises 23 to 29: write, seal, run, setWind, undo, save, restore; term 5. */
+/** Promises 23 to 29: write, seal, run, setWind, undo, save, restore; UndoTest has more of the last three. */
 public final class ChangesTest {
     private static final String DUEL = "sheet 10 10;wind 0 5;fleet a;ship x 2 5 4;fleet b;ship y 2 8 0 mass 5 hull 9;";
 
@@ -7,8 +7,6 @@ public final class ChangesTest {
         seal();
         run();
         setWind();
-        undoes();
-        undoesRuns();
         eightChanges();
         whatUndoLeaves();
         saves();
@@ -82,64 +80,6 @@ public final class ChangesTest {
         Sheets.due("26 nothing changes then", x.count(6), 4);
     }
 
-    private static void undoes() {
-        FleetSheet x = Sheets.of(DUEL);
-        String loaded = Sheets.told(x);
-        Sheets.write(x, 1, "y hhhh;");
-        String written = Sheets.told(x);
-        x.seal(0, 5);
-        String sealed = Sheets.told(x);
-        x.seal(1, 6);
-        String both = Sheets.told(x);
-        Sheets.due("two rams", x.run(), 2);
-        String turned = Sheets.told(x);
-        x.setWind(3, 3);
-        String blown = Sheets.told(x);
-        Sheets.load(x, "sheet 20 5;shift 3 3 3;fleet q;ship z 1 1 1;");
-        Sheets.due("27 load", x.undo(), 6);
-        Sheets.dueText("27 load", Sheets.told(x), blown);
-        Sheets.due("27 setWind", x.undo(), 5);
-        Sheets.dueText("27 setWind", Sheets.told(x), turned);
-        Sheets.due("27 run", x.undo(), 4);
-        Sheets.dueText("27 run", Sheets.told(x), both);
-        Sheets.due("27 run again", x.run(), 2);
-        Sheets.dueText("27 run again", Sheets.told(x), turned);
-        x.undo();
-        Sheets.due("27 seal", x.undo(), 3);
-        Sheets.dueText("27 seal", Sheets.told(x), sealed);
-        Sheets.due("27 seal", x.undo(), 2);
-        Sheets.dueText("27 seal", Sheets.told(x), written);
-        Sheets.due("27 write", x.undo(), 1);
-        Sheets.dueText("27 write", Sheets.told(x), loaded);
-        Sheets.due("27 the first load", x.undo(), 0);
-        Sheets.dueText("27 the first load", Sheets.told(x), Sheets.told(new FleetSheet()));
-        Sheets.dueState("27 nothing more", () -> x.undo());
-    }
-
-    /** A run in between writes where the log and the rams of the turn ahead of it stood. */
-    private static void undoesRuns() {
-        FleetSheet x = Sheets.of(DUEL + "ship w 9 9 0;");
-        x.seal(0, 5);
-        x.seal(1, 6);
-        x.run();
-        String first = Sheets.told(x);
-        x.save(0);
-        x.undo();
-        x.undo();
-        x.undo();
-        Sheets.write(x, 1, "w hlhlhl;y r;");
-        x.seal(0, 7);
-        x.seal(1, 8);
-        x.run();
-        String other = Sheets.told(x);
-        x.restore(0);
-        Sheets.dueText("29 with its log and rams", Sheets.told(x), first);
-        Sheets.due("29 with its seals", x.check(0, 0, 5), true);
-        x.undo();
-        Sheets.dueText("27 with its log and rams", Sheets.told(x), other);
-        Sheets.due("27 with its seals", x.check(0, 0, 7), true);
-    }
-
     private static void eightChanges() {
         FleetSheet x = new FleetSheet();
         for (int i = 0; i < 21; i++) {
@@ -183,30 +123,7 @@ public final class ChangesTest {
     }
 
     private static void saves() {
-        FleetSheet x = Sheets.of(DUEL);
-        Sheets.sealAllAndRun(x);
-        Sheets.write(x, 0, "x lr;");
-        x.seal(0, 9);
-        String first = Sheets.told(x);
-        x.save(0);
-        Sheets.load(x, "sheet 5 5;fleet q;");
-        String second = Sheets.told(x);
-        x.save(1);
-        Sheets.due("29 turn 1", x.restore(0), 1);
-        Sheets.dueText("29 slot 0", Sheets.told(x), first);
-        Sheets.due("29 turn 0", x.restore(1), 0);
-        Sheets.dueText("29 slot 1", Sheets.told(x), second);
-        Sheets.due("29 it stays saved", x.restore(0), 1);
-        Sheets.dueText("29 slot 0 again", Sheets.told(x), first);
-        x.undo();
-        Sheets.dueText("29 a restore can be undone", Sheets.told(x), second);
-        x.save(0);
-        x.restore(0);
-        Sheets.dueText("28 in place of what was saved", Sheets.told(x), second);
-        x.restore(1);
-        x.setWind(7, 7);
-        x.restore(1);
-        Sheets.dueText("29 later changes leave it", Sheets.told(x), second);
+        FleetSheet x = new FleetSheet();
         Sheets.dueIndex("28 slot 2", () -> x.save(2));
         Sheets.dueIndex("28 slot -1", () -> x.save(-1));
         Sheets.dueIndex("29 slot 2", () -> x.restore(2));

@@ -98,22 +98,35 @@ public final class LogTest {
     }
 
     private static void tenTurns() {
+        for (int turns : new int[] {1, 2, 9, 10, 11, 12, 20, 21, 33}) {
+            tenTurns(turns);
+        }
+    }
+
+    private static void tenTurns(int turns) {
         FleetSheet x = Sheets.of("sheet 12 12;wind 0 0;fleet a;ship x 2 5 4;");
         String letters = "alrh";
-        for (int turn = 0; turn < 23; turn++) {
+        for (int turn = 0; turn < turns; turn++) {
             Sheets.write(x, 0, "x " + letters.charAt(turn % 4) + letters.charAt(turn / 4 % 4) + ";");
             x.seal(0, 100 + turn);
             x.run();
-            Sheets.due("8 turns in the log", x.count(8), Math.min(10, turn + 1));
-            int oldest = Math.max(0, turn - 9);
-            Sheets.dueIndex("16 too old", () -> x.logged(oldest - 1, 0, 0));
-            Sheets.dueIndex("14 too old", () -> x.sealOf(oldest - 1, 0));
-            Sheets.dueIndex("15 too old", () -> x.check(oldest - 1, 0, 0));
-            for (int t = oldest; t <= turn; t++) {
-                Sheets.due("16 turn " + t, x.logged(t, 0, 0), 1 + t % 4);
-                Sheets.due("16 turn " + t, x.logged(t, 0, 1), 1 + t / 4 % 4);
-                Sheets.due("15 turn " + t, x.check(t, 0, 100 + t), true);
-            }
+        }
+        Sheets.due("5 turns in the log", x.count(8), Math.min(10, turns));
+        int oldest = Math.max(0, turns - 10);
+        Sheets.dueIndex("16 too old", () -> x.logged(oldest - 1, 0, 0));
+        Sheets.dueIndex("14 too old", () -> x.sealOf(oldest - 1, 0));
+        Sheets.dueIndex("15 too old", () -> x.check(oldest - 1, 0, 0));
+        Sheets.dueIndex("16 at hand", () -> x.logged(turns, 0, 0));
+        Sheets.dueIndex("15 at hand", () -> x.check(turns, 0, 0));
+        Sheets.due("14 at hand", x.sealOf(turns, 0), FleetSheet.NONE);
+        Sheets.dueIndex("14 behind that", () -> x.sealOf(turns + 1, 0));
+        for (int t = oldest; t < turns; t++) {
+            String told = "" + letters.charAt(t % 4) + letters.charAt(t / 4 % 4) + "aaaa";
+            Sheets.due("16 turn " + t, x.logged(t, 0, 0), 1 + t % 4);
+            Sheets.due("16 turn " + t, x.logged(t, 0, 1), 1 + t / 4 % 4);
+            Sheets.due("14 turn " + t, x.sealOf(t, 0), sealBy(100 + t, told));
+            Sheets.due("15 turn " + t, x.check(t, 0, 100 + t), true);
+            Sheets.due("15 turn " + t + " by another key", x.check(t, 0, 101 + t), false);
         }
     }
 }

@@ -19,6 +19,7 @@ public final class PromiseBoundsTest {
         courseAlone();
         afterAsRun();
         meetAsRun();
+        meetWithShift();
         sparesAsTried();
         bestWindAsTried();
         paces();
@@ -278,6 +279,20 @@ public final class PromiseBoundsTest {
                 }
             }
         }
+    }
+
+    private static void meetWithShift() {
+        FleetSheet x = Sheets.of(DUEL.replace("wind 0 5;", "wind 0 0;shift 0 0 5;shift 1 0 0;"));
+        Sheets.due("19 with the shift of this turn", x.meet(0, 1), 3);
+        FleetSheet y = Sheets.of(DUEL.replace("wind 0 5;", "wind 0 5;shift 0 0 0;"));
+        Sheets.due("19 becalmed by it", y.meet(0, 1), FleetSheet.NONE);
+        Sheets.due("17 becalmed by it", y.after(0, 2), 5);
+        Sheets.sealAllAndRun(y);
+        Sheets.due("5 it is the wind now", y.count(6), 0);
+        y.setWind(0, 5);
+        Sheets.due("19 the wind as set", y.meet(1, 0), 3);
+        Sheets.sealAllAndRun(y);
+        Sheets.due("19 a sunk ship meets nobody", y.meet(0, 1), FleetSheet.NONE);
     }
 
     private static int firstRam(FleetSheet x, int ship, int other) {

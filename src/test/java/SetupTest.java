@@ -145,6 +145,16 @@ public final class SetupTest {
         Sheets.due("3 a name that was told ahead of it",
             Sheets.load(x, "sheet 10 10;fleet b;ship z 1 1 1;ship x 2 5 2;fleet a;ship y 3 5 3;"), 3);
         Sheets.due("23 of the new ones", Sheets.write(x, 0, "w a;"), FleetSheet.UNKNOWN);
+        FleetSheet y = Sheets.of("sheet 10 10;fleet a;ship x 0 0 0;fleet b;ship y 1 1 0;");
+        Sheets.load(y, "sheet 10 10;fleet a;ship p 0 0 0;fleet b;");
+        Sheets.due("3 no lookout is left", y.sees(1, 0), false);
+        FleetSheet z = Sheets.of("sheet 30 9;wind 2 9;fleet a;ship x 29 4 6 sail 9 stiff 0;");
+        Sheets.write(z, 0, "x aaaalr;");
+        Sheets.due("3 way that would be", z.after(0, 8), 90);
+        Sheets.due("3 pulses that would be", z.after(0, 9), 0);
+        Sheets.load(z, "sheet 30 9;fleet a;ship q 0 0 0;");
+        Sheets.due("3 no way yet", z.ship(0, 8), 0);
+        Sheets.due("3 four pulses", z.ship(0, 9), 4);
     }
 
     private static void errorPosition() {
